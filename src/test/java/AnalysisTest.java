@@ -281,6 +281,11 @@ final class AnalysisTest {
         y.collect(0);
         Due.is("all retained", 100, y.modulus());
         Due.is("no analysis", -2, new SieveBench().modulus());
+        SieveBench almost = charged("0:1,9:999", 5);
+        almost.shake(1);
+        almost.collect(0);
+        almost.collect(1);
+        Due.is("999 is rounded down", 99, almost.modulus());
         SieveBench six = charged("9:7", 9, 8, 7, 6, 5, 4);
         six.collect(0);
         Due.is("six sieves", 600, six.modulus());

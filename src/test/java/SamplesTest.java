@@ -165,6 +165,17 @@ final class SamplesTest {
         Due.is("nor saved", before, x.count(9));
         x.setMass(2, 5000);
         Due.is("9999 is not", 10002, x.combine());
+        for (int size = 0; size <= 9; size++) {
+            SieveBench one = new SieveBench();
+            one.setMass(size, 9999);
+            one.split(1);
+            Due.is("class " + size + " comes back", 9999, one.combine());
+            Due.is("whole " + size, 9999, one.mass(size));
+            Due.is("and leaves the reserve " + size, 0, one.reserve(size));
+            one.split(1);
+            one.setMass(size, 5000);
+            Due.is("class " + size + " has no room", -3, one.combine());
+        }
     }
 
     private static void promise8AppendCharacter() {
@@ -264,6 +275,21 @@ final class SamplesTest {
         error("9:9,8:8,7:7,6:6,5:5,4:4,3:3,2:2,1:1,0:0,3:3", 40);
         error(" ".repeat(79) + "1", 80);
         error(" ".repeat(79) + "x", 79);
+        error(" ".repeat(78) + "1:", 80);
+        error(" ".repeat(76) + "1:5,", 80);
+        afterLonger("1:5,2:3", "1:5,", 4);
+        afterLonger("1:5", "1:", 2);
+        afterLonger("1:5", "1", 1);
+    }
+
+    /** What stood in a longer text before must not be read. */
+    private static void afterLonger(String longer, String text, int position) {
+        SieveBench x = new SieveBench();
+        Due.load(x, longer);
+        Due.is("load of '" + text + "' after '" + longer + "'", -10 - position, Due.load(x, text));
+        x.clearText();
+        Due.type(x, longer);
+        Due.is("load of '" + text + "' after clearing", -10 - position, Due.load(x, text));
     }
 
     private static void error(String text, int position) {

@@ -82,6 +82,21 @@ final class UndoTest {
             Due.is("call " + number + " is undone", saved, x.undo());
             Due.holds("call " + number + " restores", before.equals(Due.picture(x)));
         }
+        SieveBench full = new SieveBench();
+        Due.load(full, "0:1000,3:1000");
+        for (int aperture = 1; aperture <= 6; aperture++) {
+            full.addSieve(aperture);
+        }
+        full.charge();
+        full.shake(20);
+        String whole = Due.picture(full);
+        Due.holds("the pan below six sieves", full.collect(6) > 0);
+        full.undo();
+        Due.holds("comes back too", whole.equals(Due.picture(full)));
+        full.collect(6);
+        full.removeSieve(1);
+        full.addSieve(1);
+        Due.is("or is thrown away", 0, full.tray(6, 3));
         SieveBench band = ready();
         band.setBand(2, 3, 4);
         band.undo();
