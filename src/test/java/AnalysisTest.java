@@ -17,16 +17,6 @@ final class AnalysisTest {
         Due.close();
     }
 
-    private static SieveBench charged(String sample, int... apertures) {
-        SieveBench x = new SieveBench();
-        Due.load(x, sample);
-        for (int aperture : apertures) {
-            x.addSieve(aperture);
-        }
-        x.charge();
-        return x;
-    }
-
     private static void promise18Charge() {
         SieveBench x = new SieveBench();
         x.setMass(0, 10);
@@ -59,7 +49,7 @@ final class AnalysisTest {
     }
 
     private static void promise19ShakeByHand() {
-        SieveBench x = charged("0:1000,1:1000,2:1000,3:1000,4:1000,5:1000", 4);
+        SieveBench x = Due.charged("0:1000,1:1000,2:1000,3:1000,4:1000,5:1000", 4);
         Due.is("first minute", 2700, x.shake(1));
         int[] first = {100, 100, 400, 700, 980, 1000};
         int[] firstPan = {899, 900, 600, 300, 0, 0};
@@ -84,13 +74,13 @@ final class AnalysisTest {
         Due.is("flow of the second alone", 603, x.count(7));
         Due.is("minutes", 2, x.count(6));
         // 17 leaves 7, of which 7 * 960 * 600 / 1000000 = 4 fall; rounding between would make it 3.
-        SieveBench y = charged("2:17,4:1000", 4);
+        SieveBench y = Due.charged("2:17,4:1000", 4);
         y.shake(2);
         Due.is("rounded once", 3, y.on(0, 2));
     }
 
     private static void promise19ShakeEdges() {
-        SieveBench x = charged("0:10", 5, 4, 3);
+        SieveBench x = Due.charged("0:10", 5, 4, 3);
         x.setRules(500, 0, 0, 5);
         Due.is("from the lowest sieve up", 9, x.shake(1));
         Due.is("one tray a minute", 9, x.on(1, 0));
@@ -106,26 +96,26 @@ final class AnalysisTest {
         SieveBench none = new SieveBench();
         Due.is("no analysis", -2, none.shake(1));
         Due.is("argument first", -1, none.shake(0));
-        SieveBench most = charged("0:9999,8:9999,9:9999", 9);
+        SieveBench most = Due.charged("0:9999,8:9999,9:9999", 9);
         Due.is("more than an int holds between", 8999 + 2999, most.shake(1));
         Due.is("stuck", 199, most.tray(0, 2));
-        SieveBench blind = charged("3:1000,4:1000", 4);
+        SieveBench blind = Due.charged("3:1000,4:1000", 4);
         blind.setRules(1, 200, 0, 0);
         blind.shake(1);
         Due.is("stuck after falling", 700, blind.on(0, 3));
         Due.is("least openness", 21, blind.shake(1));
-        SieveBench dusty = charged("0:1000", 1);
+        SieveBench dusty = Due.charged("0:1000", 1);
         dusty.setRules(500, 0, 100, 0);
         dusty.shake(1);
         Due.is("dust of what fell in the minute", 270, dusty.on(1, 0));
         Due.is("ease 300 for the next finer", 700, dusty.on(0, 0));
-        SieveBench coarse = charged("0:1000,5:1000", 5);
+        SieveBench coarse = Due.charged("0:1000,5:1000", 5);
         coarse.setRules(500, 0, 100, 0);
         coarse.shake(1);
         Due.is("dust from the pan alone", 100, coarse.on(0, 0));
         Due.is("of the 900", 810, coarse.on(1, 0));
         // The upper sieve's grains of class 2 come to the lower one after its turn.
-        SieveBench late = charged("2:1000", 4, 2);
+        SieveBench late = Due.charged("2:1000", 4, 2);
         late.setRules(500, 200, 0, 0);
         late.shake(1);
         Due.is("not stuck yet", 0, late.tray(1, 2));
@@ -134,7 +124,7 @@ final class AnalysisTest {
     }
 
     private static void promise20Collect() {
-        SieveBench x = charged("0:1000,4:1000", 4);
+        SieveBench x = Due.charged("0:1000,4:1000", 4);
         x.shake(1);
         int before = x.count(9);
         Due.is("tray -1", -1, x.collect(-1));
@@ -147,7 +137,7 @@ final class AnalysisTest {
         Due.is("the pan", 899, x.collect(1));
         Due.is("nothing more", 0, x.collect(1));
         Due.is("which is a success", 899, x.tray(1, 3));
-        SieveBench twice = charged("0:1000", 4);
+        SieveBench twice = Due.charged("0:1000", 4);
         twice.collect(0);
         twice.undo();
         twice.shake(1);
@@ -161,7 +151,7 @@ final class AnalysisTest {
     }
 
     private static void promise21Brush() {
-        SieveBench x = charged("4:1000", 4);
+        SieveBench x = Due.charged("4:1000", 4);
         x.shake(1);
         x.collect(0);
         Due.is("the pan", -1, x.brush(1, 1));
@@ -190,7 +180,7 @@ final class AnalysisTest {
         SieveBench none = new SieveBench();
         none.setMass(0, 10);
         Due.is("no analysis", -2, none.loss());
-        SieveBench x = charged("0:1000,4:1000", 4);
+        SieveBench x = Due.charged("0:1000,4:1000", 4);
         x.setRules(500, 100, 100, 0);
         Due.is("none yet", 0, x.loss());
         x.shake(1);
@@ -207,7 +197,7 @@ final class AnalysisTest {
     private static void promise23IsGood() {
         SieveBench none = new SieveBench();
         Due.is("no analysis", -2, none.isGood());
-        SieveBench x = charged("4:1000", 4);
+        SieveBench x = Due.charged("4:1000", 4);
         Due.is("nothing lost", 1, x.isGood());
         x.setRules(500, 5, 0, 5);
         x.shake(1);
@@ -223,7 +213,7 @@ final class AnalysisTest {
 
     /** 40 on sieve 6, 7 on sieve 4, 49 on sieve 3 and 100 in the pan, all collected. */
     private static SieveBench collected() {
-        SieveBench x = charged("6:40,4:7,3:49,0:100", 6, 4, 3);
+        SieveBench x = Due.charged("6:40,4:7,3:49,0:100", 6, 4, 3);
         x.setRules(500, 0, 0, 0);
         x.shake(200);
         for (int tray = 0; tray <= 3; tray++) {
@@ -239,7 +229,7 @@ final class AnalysisTest {
         Due.is("100 of 196", 510, x.passing(2));
         Due.is("the pan", -1, x.passing(3));
         Due.is("-1", -1, x.passing(-1));
-        SieveBench y = charged("0:10,5:10", 5);
+        SieveBench y = Due.charged("0:10,5:10", 5);
         Due.is("nothing collected", -2, y.passing(0));
         y.collect(1);
         Due.is("an empty pan", -2, y.passing(0));
@@ -265,7 +255,7 @@ final class AnalysisTest {
         x.setBand(3, 0, 0);
         x.setBand(5, 0, 0);
         Due.is("an aperture without a sieve does not count", 3, x.misses());
-        SieveBench y = charged("0:10", 5);
+        SieveBench y = Due.charged("0:10", 5);
         y.setBand(5, 1000, 1000);
         Due.is("nothing collected", -2, y.misses());
         y.collect(0);
@@ -276,17 +266,17 @@ final class AnalysisTest {
     private static void promise26Modulus() {
         // 205 + 240 + 490 = 935, divided once.
         Due.is("sum of the retained", 93, collected().modulus());
-        SieveBench y = charged("0:10", 5);
+        SieveBench y = Due.charged("0:10", 5);
         Due.is("nothing collected", -2, y.modulus());
         y.collect(0);
         Due.is("all retained", 100, y.modulus());
         Due.is("no analysis", -2, new SieveBench().modulus());
-        SieveBench almost = charged("0:1,9:999", 5);
+        SieveBench almost = Due.charged("0:1,9:999", 5);
         almost.shake(1);
         almost.collect(0);
         almost.collect(1);
         Due.is("999 is rounded down", 99, almost.modulus());
-        SieveBench six = charged("9:7", 9, 8, 7, 6, 5, 4);
+        SieveBench six = Due.charged("9:7", 9, 8, 7, 6, 5, 4);
         six.collect(0);
         Due.is("six sieves", 600, six.modulus());
     }
@@ -313,7 +303,7 @@ final class AnalysisTest {
         SieveBench none = new SieveBench();
         Due.is("no analysis", -2, none.minutesTo(1));
         Due.is("argument first", -1, none.minutesTo(0));
-        SieveBench x = charged("0:1000,1:1000,2:1000,3:1000,4:1000,5:1000", 4);
+        SieveBench x = Due.charged("0:1000,1:1000,2:1000,3:1000,4:1000,5:1000", 4);
         Due.is("0", -1, x.minutesTo(0));
         Due.is("10000", -1, x.minutesTo(10000));
         Due.is("2700 is less than 2701", 1, x.minutesTo(2701));
@@ -333,7 +323,7 @@ final class AnalysisTest {
         Due.is("the last does not", 0, x.count(7));
         Due.is("at least 1 after rest too", 1, x.minutesTo(1));
         // Found by trying all stacks: no sample seems to flow for 500 minutes, so NONE is not met here.
-        SieveBench slow = charged("0:9999,1:9999,2:9999,3:9999,4:9999,5:9999,6:9999,7:9999,8:9999,9:9999",
+        SieveBench slow = Due.charged("0:9999,1:9999,2:9999,3:9999,4:9999,5:9999,6:9999,7:9999,8:9999,9:9999",
                 6, 5, 4, 3, 2, 1);
         slow.setRules(1, 1, 0, 0);
         Due.is("the slowest stack", 281, slow.minutesTo(1));
@@ -349,7 +339,7 @@ final class AnalysisTest {
         SieveBench none = new SieveBench();
         Due.is("no analysis", -2, none.dustIn(1));
         Due.is("argument first", -1, none.dustIn(0));
-        SieveBench x = charged("0:1000,4:1000", 4);
+        SieveBench x = Due.charged("0:1000,4:1000", 4);
         x.setRules(500, 20, 100, 5);
         Due.is("0", -1, x.dustIn(0));
         Due.is("501", -1, x.dustIn(501));

@@ -1,5 +1,9 @@
 /** Counts and prints the answers that are not as due. */
 final class Due {
+    /** The greatest mass of every class, in 69 characters. */
+    static final String FULL_SAMPLE =
+        "0:9999,1:9999,2:9999,3:9999,4:9999,5:9999,6:9999,7:9999,8:9999,9:9999";
+
     private static int wrong = 0;
     private static int asked = 0;
 
@@ -29,6 +33,17 @@ final class Due {
         bench.clearText();
         type(bench, text);
         return bench.load();
+    }
+
+    /** An analysis of a sample on a stack, not shaken yet. */
+    static SieveBench charged(String sample, int... apertures) {
+        SieveBench x = new SieveBench();
+        load(x, sample);
+        for (int aperture : apertures) {
+            x.addSieve(aperture);
+        }
+        x.charge();
+        return x;
     }
 
     /** Every answer about the present state except the text's length and the saved states. */

@@ -121,7 +121,7 @@ final class RefusalsTest {
     private static SieveBench full() {
         SieveBench x = new SieveBench();
         bands(x);
-        Due.load(x, "0:9999,1:9999,2:9999,3:9999,4:9999,5:9999,6:9999,7:9999,8:9999,9:9999");
+        Due.load(x, Due.FULL_SAMPLE);
         x.split(1);
         x.split(1);
         stack(x, 9, 7, 6, 4, 3, 1);

@@ -56,7 +56,7 @@ final class TextTest {
 
     /** Of 80 characters: the error position may be 80, where nothing can stand. */
     private static void fullTexts() {
-        String most = "0:9999,1:9999,2:9999,3:9999,4:9999,5:9999,6:9999,7:9999,8:9999,9:9999";
+        String most = Due.FULL_SAMPLE;
         ask(most + " ".repeat(80 - most.length()));
         ask(" ".repeat(80 - most.length()) + most);
         ask(most + " ".repeat(79 - most.length()) + ",");

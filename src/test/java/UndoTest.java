@@ -5,6 +5,7 @@ final class UndoTest {
         promise30EachCall();
         promise30Errors();
         promise30Text();
+        seventhSavedState();
         Due.close();
     }
 
@@ -137,5 +138,29 @@ final class UndoTest {
         x.undo();
         Due.is("the text does not come back", 0, x.count(8));
         Due.is("the sample does", 1, x.mass(-1));
+    }
+
+    private static void seventhSavedState() {
+        SieveBench x = new SieveBench();
+        for (int round = 0; round < 5; round++) {
+            for (int mass = 1; mass <= 7 + round; mass++) {
+                x.setMass(5, 100 * round + mass);
+            }
+            Due.is("six are saved", 6, x.count(9));
+            for (int back = 1; back <= 6; back++) {
+                Due.is("left", 6 - back, x.undo());
+                Due.is("restored", 100 * round + 7 + round - back, x.mass(5));
+            }
+            Due.is("the seventh had taken the place of the oldest", -2, x.undo());
+        }
+        SieveBench six = new SieveBench();
+        for (int mass = 1; mass <= 6; mass++) {
+            six.setMass(5, mass);
+        }
+        for (int back = 5; back >= 0; back--) {
+            Due.is("six keep the first", back, six.undo());
+        }
+        Due.is("which is the empty sample", 0, six.mass(5));
+        Due.is("undo saves nothing", -2, six.undo());
     }
 }

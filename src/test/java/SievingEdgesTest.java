@@ -1,15 +1,6 @@
-/** The sentences of the document that name an edge, from "Classes and samples" to "Undo". */
-final class EdgesTest {
-    private static final String FULL_SAMPLE =
-        "0:9999,1:9999,2:9999,3:9999,4:9999,5:9999,6:9999,7:9999,8:9999,9:9999";
-
+/** The sentences that name an edge in "Stack", "Shaking" and "Analysis", and in the forecasts. */
+final class SievingEdgesTest {
     public static void main(String[] args) {
-        massesAndTheirSum();
-        oddUnitsByTurns();
-        turnsBeginAnewInEachSplitting();
-        reserveWithoutUpperBound();
-        combineUpToTheBrim();
-        splitToTheNumberItself();
         classesBelowTheAperturePass();
         sievesStandByAperture();
         opennessBounds();
@@ -28,140 +19,7 @@ final class EdgesTest {
         truePassingFromEndToEnd();
         firstMinuteBelowTheFlow();
         dustOfAllMinutes();
-        seventhSavedState();
         Due.close();
-    }
-
-    private static SieveBench charged(String sample, int... apertures) {
-        SieveBench x = new SieveBench();
-        Due.load(x, sample);
-        for (int aperture : apertures) {
-            x.addSieve(aperture);
-        }
-        x.charge();
-        return x;
-    }
-
-    private static void masses(String what, SieveBench x, int... wanted) {
-        for (int size = 0; size < wanted.length; size++) {
-            Due.is(what + ", class " + size, wanted[size], x.mass(size));
-        }
-    }
-
-    // ---- classes and samples
-
-    private static void massesAndTheirSum() {
-        for (int size = 0; size <= 9; size++) {
-            SieveBench x = new SieveBench();
-            for (int mass : new int[] {0, 1, 9998, 9999}) {
-                int before = x.mass(size);
-                Due.is("previous", before, x.setMass(size, mass));
-                Due.is("set", mass, x.mass(size));
-                Due.is("the others stay 0", mass, x.mass(-1));
-            }
-        }
-        String text = FULL_SAMPLE + " ".repeat(80 - FULL_SAMPLE.length());
-        SieveBench full = new SieveBench();
-        Due.type(full, text);
-        Due.is("80 characters", 80, full.count(8));
-        Due.is("ten times 9999", 99990, full.load());
-        Due.is("sum", 99990, full.mass(-1));
-    }
-
-    private static void oddUnitsByTurns() {
-        SieveBench x = new SieveBench();
-        Due.load(x, FULL_SAMPLE);
-        Due.is("five turns each", 49995, x.split(0));
-        masses("left", x, 5000, 4999, 5000, 4999, 5000, 4999, 5000, 4999, 5000, 4999);
-        for (int size = 0; size <= 9; size++) {
-            Due.is("right, class " + size, 9999 - x.mass(size), x.reserve(size));
-        }
-        // Even masses take no turn: 1 left, 4 right, 7 left, 9 right.
-        Due.load(x, "0:2,1:1,2:8,3:2,4:3,6:6,7:1,9:5");
-        Due.is("without turns of even ones", 14, x.split(0));
-        masses("left by turns", x, 1, 1, 4, 1, 1, 0, 3, 1, 0, 2);
-    }
-
-    private static void turnsBeginAnewInEachSplitting() {
-        SieveBench x = new SieveBench();
-        x.setMass(3, 5);
-        Due.is("5, 3, 2, 1", 3, x.splitTo(1));
-        x.setMass(3, 5);
-        Due.is("5 leaves 3", 3, x.split(0));
-        Due.is("3 leaves 2", 2, x.split(0));
-        SieveBench y = new SieveBench();
-        y.setMass(3, 5);
-        Due.is("the right one has 2", 2, y.split(1));
-        Due.is("then 1", 1, y.split(1));
-        Due.is("then 0", 0, y.split(1));
-        SieveBench all = new SieveBench();
-        Due.load(all, "0:1,1:1,2:1");
-        Due.is("one splitting to 2", 1, all.splitTo(2));
-        masses("the first and the third go left", all, 1, 0, 1);
-        Due.is("one more to 1", 1, all.splitTo(1));
-        masses("the first goes left", all, 1, 0, 0);
-    }
-
-    private static void reserveWithoutUpperBound() {
-        SieveBench x = new SieveBench();
-        for (int round = 1; round <= 24; round++) {
-            Due.load(x, "0:9999,9:9998");
-            x.split(1);
-            Due.is("class 0", 5000 * round, x.reserve(0));
-            Due.is("class 9", 4999 * round, x.reserve(9));
-            Due.is("sum", 9999 * round, x.reserve(-1));
-        }
-    }
-
-    private static void combineUpToTheBrim() {
-        for (int size = 0; size <= 9; size++) {
-            SieveBench x = new SieveBench();
-            x.setMass(size, 9999);
-            x.split(1);
-            x.setMass(size, 9999);
-            x.split(1);
-            Due.is("10000 in the reserve", 10000, x.reserve(size));
-            x.setMass(size, 0);
-            x.setMass((size + 1) % 10, 9999);
-            Due.is("too much for an empty class", -3, x.combine());
-            Due.is("which stays empty", 0, x.mass(size));
-            Due.is("and the reserve full", 10000, x.reserve(-1));
-        }
-        SieveBench all = new SieveBench();
-        Due.load(all, FULL_SAMPLE);
-        all.split(0);
-        Due.is("all classes to the brim", 99990, all.combine());
-        Due.is("again, without a reserve", 99990, all.combine());
-        Due.is("reserve", 0, all.reserve(-1));
-        all.split(0);
-        all.setMass(9, 5000);
-        Due.is("10000 of the last class alone is too much", -3, all.combine());
-        all.setMass(9, 4999);
-        Due.is("9999 is not", 99990, all.combine());
-    }
-
-    private static void splitToTheNumberItself() {
-        SieveBench x = new SieveBench();
-        Due.load(x, "0:9999");
-        Due.is("9999 is not greater than 9999", 0, x.splitTo(9999));
-        Due.is("nothing went", 0, x.reserve(-1));
-        x.setMass(9, 1);
-        Due.is("10000 is", 1, x.splitTo(9999));
-        Due.is("left part", 5000, x.mass(-1));
-        x = new SieveBench();
-        x.setMass(4, 1);
-        Due.is("1 is not greater than 1", 0, x.splitTo(1));
-        x.setMass(4, 2);
-        Due.is("2 is", 1, x.splitTo(1));
-        Due.is("1 stays", 1, x.mass(4));
-        Due.is("1 goes", 1, x.reserve(4));
-        Due.load(x, FULL_SAMPLE);
-        int before = x.reserve(-1) + 99990;
-        // 99990 49995 24998 12499 6250 3125 1563 782 391 196 98 49 25 13 7 4 2 1: the left part is never the smaller.
-        Due.is("of the fullest sample", 17, x.splitTo(1));
-        Due.is("down to 1", 1, x.mass(-1));
-        Due.is("the finest stays", 1, x.mass(0));
-        Due.is("the rest is kept", before - 1, x.reserve(-1));
     }
 
     // ---- stack
@@ -210,7 +68,7 @@ final class EdgesTest {
     }
 
     private static void opennessBounds() {
-        SieveBench x = charged("5:5000", 5);
+        SieveBench x = Due.charged("5:5000", 5);
         x.setRules(9999, 200, 0, 0);
         Due.is("nothing stuck", 1000, x.tray(0, 4));
         x.shake(1);
@@ -221,7 +79,7 @@ final class EdgesTest {
             x.setRules(row[0], 0, 0, 0);
             Due.is("openness for C = " + row[0], row[1], x.tray(0, 4));
         }
-        SieveBench one = charged("5:5", 5);
+        SieveBench one = Due.charged("5:5", 5);
         one.setRules(9999, 200, 0, 0);
         one.shake(1);
         Due.is("one grain", 1, one.tray(0, 2));
@@ -230,7 +88,7 @@ final class EdgesTest {
         Due.is("of 1000 by 1", 999, one.tray(0, 4));
         one.setRules(1001, 0, 0, 0);
         Due.is("of 1001 by nothing", 1000, one.tray(0, 4));
-        SieveBench most = charged("9:9999", 9);
+        SieveBench most = Due.charged("9:9999", 9);
         most.setRules(1, 200, 0, 0);
         most.shake(200);
         Due.is("9995 stuck grains, all but 4", 9995, most.tray(0, 2));
@@ -238,7 +96,7 @@ final class EdgesTest {
     }
 
     private static void opennessWhenTheTurnComes() {
-        SieveBench x = charged("2:1000,5:5", 5);
+        SieveBench x = Due.charged("2:1000,5:5", 5);
         x.setRules(1, 200, 0, 0);
         Due.is("open in the minute that blinds it", 900, x.shake(1));
         Due.is("stuck", 1, x.tray(0, 2));
@@ -246,7 +104,7 @@ final class EdgesTest {
         x.brush(0, 0);
         Due.is("brushed, it is open at once: 819 of 91 thousandths", 81, x.shake(1));
         // A collected tray keeps its stuck grains.
-        SieveBench y = charged("5:5", 5);
+        SieveBench y = Due.charged("5:5", 5);
         y.setRules(1, 200, 0, 0);
         y.shake(1);
         y.collect(0);
@@ -255,15 +113,15 @@ final class EdgesTest {
     }
 
     private static void easeByDistance() {
-        SieveBench x = charged("0:1000", 1);
+        SieveBench x = Due.charged("0:1000", 1);
         Due.is("aperture 1 lets class 0 through hardly", 300, x.shake(1));
-        x = charged("0:1000", 2);
+        x = Due.charged("0:1000", 2);
         Due.is("aperture 2", 600, x.shake(1));
-        x = charged("0:1000", 3);
+        x = Due.charged("0:1000", 3);
         Due.is("aperture 3", 900, x.shake(1));
-        x = charged("0:1000", 9);
+        x = Due.charged("0:1000", 9);
         Due.is("aperture 9", 900, x.shake(1));
-        x = charged("9:1000", 9);
+        x = Due.charged("9:1000", 9);
         Due.is("class 9 falls never", 0, x.shake(200));
         Due.is("it stays or gets stuck", 1000, x.tray(0, 1) + x.tray(0, 2));
     }
@@ -271,14 +129,14 @@ final class EdgesTest {
     private static void fallOfAtLeastOne() {
         int[][] due = {{0, 0}, {1, 1}, {33, 1}, {34, 1}, {66, 1}, {67, 2}, {99, 2}, {100, 3}};
         for (int[] row : due) {
-            SieveBench x = charged("4:" + row[0] + ",5:5", 5);
+            SieveBench x = Due.charged("4:" + row[0] + ",5:5", 5);
             x.setRules(1, 200, 0, 0);
             SieveBench blind = blinded(row[0]);
             Due.is("openness", 100, blind.tray(0, 4));
             Due.is(row[0] + " at ease 300 and openness 100", row[1], blind.shake(1));
             Due.is(row[0] + " at openness 1000", row[0] == 0 ? 0 : Math.max(1, row[0] * 3 / 10), x.shake(1));
         }
-        SieveBench last = charged("0:2,1:1,2:1", 9, 8);
+        SieveBench last = Due.charged("0:2,1:1,2:1", 9, 8);
         Due.is("one of each", 3, last.shake(1));
         Due.is("one of each, on two trays", 1 + 3, last.shake(1));
     }
@@ -289,7 +147,7 @@ final class EdgesTest {
         for (int first = mass; first <= 9999; first++) {
             int left = first - (first == 0 ? 0 : Math.max(1, first * 3 / 10));
             if (left == mass) {
-                SieveBench x = charged("4:" + first + ",5:5", 5);
+                SieveBench x = Due.charged("4:" + first + ",5:5", 5);
                 x.setRules(1, 200, 0, 0);
                 x.shake(1);
                 Due.is("left above", mass, x.on(0, 4));
@@ -303,7 +161,7 @@ final class EdgesTest {
         int[][] due = {{1, 200, 0}, {4, 200, 0}, {5, 200, 1}, {9, 200, 1}, {10, 200, 2}, {9999, 200, 1999},
             {9999, 0, 0}, {9999, 1, 9}, {999, 1, 0}, {1000, 1, 1}, {49, 20, 0}, {50, 20, 1}};
         for (int[] row : due) {
-            SieveBench x = charged("7:" + row[0], 7);
+            SieveBench x = Due.charged("7:" + row[0], 7);
             x.setRules(500, row[1], 0, 0);
             Due.is("nothing falls", 0, x.shake(1));
             Due.is("stuck of " + row[0] + " at B = " + row[1], row[2], x.tray(0, 2));
@@ -316,7 +174,7 @@ final class EdgesTest {
         int[][] due = {{9, 100, 0}, {10, 100, 1}, {19, 100, 1}, {999, 1, 0}, {1000, 1, 1}, {9000, 0, 0},
             {499, 2, 0}, {500, 2, 1}};
         for (int[] row : due) {
-            SieveBench x = charged("0:" + row[0] + ",1:9999", 1);
+            SieveBench x = Due.charged("0:" + row[0] + ",1:9999", 1);
             x.setRules(500, 0, 0, 0);
             x.shake(200);
             Due.is("all in the pan", row[0], x.on(1, 0));
@@ -325,13 +183,13 @@ final class EdgesTest {
             Due.is("dust of " + row[0] + " at E = " + row[1], row[2], x.loss());
             Due.is("left", row[0] - row[2], x.on(1, 0));
         }
-        SieveBench other = charged("0:1,1:9999,2:9999", 9);
+        SieveBench other = Due.charged("0:1,1:9999,2:9999", 9);
         other.setRules(500, 0, 100, 0);
         other.shake(200);
         Due.is("other classes in the pan are no dust", 19998, other.on(1, 1) + other.on(1, 2));
         Due.is("no loss", 0, other.loss());
         other.collect(1);
-        SieveBench safe = charged("0:1000", 9);
+        SieveBench safe = Due.charged("0:1000", 9);
         safe.setRules(500, 0, 0, 0);
         safe.shake(200);
         safe.collect(1);
@@ -343,11 +201,11 @@ final class EdgesTest {
     // ---- analysis
 
     private static void flowIsWhatFell() {
-        SieveBench x = charged("0:1000,4:1000", 4);
+        SieveBench x = Due.charged("0:1000,4:1000", 4);
         x.setRules(500, 200, 100, 0);
         Due.is("neither stuck nor dust", 900, x.shake(1));
         Due.is("flow", 900, x.count(7));
-        SieveBench two = charged("0:100", 9, 8);
+        SieveBench two = Due.charged("0:100", 9, 8);
         Due.is("first", 90, two.shake(1));
         Due.is("a grain counts on each tray that it leaves", 9 + 81, two.shake(1));
         two.collect(0);
@@ -360,7 +218,7 @@ final class EdgesTest {
     }
 
     private static void minutesWithoutBound() {
-        SieveBench x = charged("0:1", 1);
+        SieveBench x = Due.charged("0:1", 1);
         for (int round = 1; round <= 60; round++) {
             x.shake(200);
             Due.is("minutes", 200 * round, x.count(6));
@@ -372,7 +230,7 @@ final class EdgesTest {
     }
 
     private static void secondAnalysisBeginsAnew() {
-        SieveBench x = charged("0:1000,4:1000", 4);
+        SieveBench x = Due.charged("0:1000,4:1000", 4);
         x.setRules(10, 200, 100, 7);
         x.shake(2);
         x.collect(1);
@@ -398,20 +256,20 @@ final class EdgesTest {
 
     private static void goodToTheLastUnit() {
         // 1999 grains, of which 10 are brushed off and lost: 10000 of 9995, though 10000 / 1999 is 5.
-        SieveBench x = charged("4:1000,9:999", 4);
+        SieveBench x = Due.charged("4:1000,9:999", 4);
         x.setRules(500, 10, 0, 5);
         x.shake(1);
         Due.is("10 are lost", 10, x.brush(0, 0));
         Due.is("loss", 10, x.loss());
         Due.is("a little too much", 0, x.isGood());
-        SieveBench y = charged("4:1000,9:1000", 4);
+        SieveBench y = Due.charged("4:1000,9:1000", 4);
         y.setRules(500, 10, 0, 5);
         y.shake(1);
         y.brush(0, 0);
         Due.is("10000 is 10000", 1, y.isGood());
         y.setRules(500, 10, 0, 4);
         Due.is("8000 is less", 0, y.isGood());
-        SieveBench tenth = charged("4:1000", 4);
+        SieveBench tenth = Due.charged("4:1000", 4);
         tenth.setRules(500, 100, 0, 100);
         tenth.shake(1);
         tenth.brush(0, 0);
@@ -420,11 +278,11 @@ final class EdgesTest {
         tenth.shake(1);
         Due.is("1 of 900", 1, tenth.brush(0, 0));
         Due.is("one more than a tenth", 0, tenth.isGood());
-        SieveBench none = charged("4:1000", 4);
+        SieveBench none = Due.charged("4:1000", 4);
         none.setRules(500, 0, 0, 0);
         none.shake(200);
         Due.is("no loss at G = 0", 1, none.isGood());
-        SieveBench most = charged(FULL_SAMPLE, 9);
+        SieveBench most = Due.charged(Due.FULL_SAMPLE, 9);
         most.setRules(1, 200, 100, 0);
         most.shake(200);
         most.brush(0, 0);
@@ -433,7 +291,7 @@ final class EdgesTest {
     }
 
     private static void passingFromEndToEnd() {
-        SieveBench all = charged("0:1000", 9, 5, 1);
+        SieveBench all = Due.charged("0:1000", 9, 5, 1);
         all.setRules(500, 0, 0, 0);
         all.shake(200);
         all.shake(200);
@@ -441,12 +299,12 @@ final class EdgesTest {
         for (int tray = 0; tray <= 2; tray++) {
             Due.is("all in the pan", 1000, all.passing(tray));
         }
-        SieveBench none = charged("9:1000", 9, 5, 1);
+        SieveBench none = Due.charged("9:1000", 9, 5, 1);
         none.collect(0);
         for (int tray = 0; tray <= 2; tray++) {
             Due.is("all on the highest", 0, none.passing(tray));
         }
-        SieveBench most = charged(FULL_SAMPLE, 9, 8);
+        SieveBench most = Due.charged(Due.FULL_SAMPLE, 9, 8);
         most.setRules(500, 0, 0, 0);
         most.shake(200);
         most.collect(2);
@@ -456,7 +314,7 @@ final class EdgesTest {
         Due.is("nine of ten", 900, most.passing(0));
         Due.is("eight of ten", 800, most.passing(1));
         // The sum is of what was collected, not of the total, and brushed grains count with their sieve.
-        SieveBench stuck = charged("0:10,3:5", 3);
+        SieveBench stuck = Due.charged("0:10,3:5", 3);
         stuck.setRules(500, 200, 0, 0);
         stuck.shake(1);
         stuck.brush(0, 1);
@@ -469,16 +327,16 @@ final class EdgesTest {
     }
 
     private static void modulusFromEndToEnd() {
-        SieveBench all = charged("0:1000", 9, 5, 1);
+        SieveBench all = Due.charged("0:1000", 9, 5, 1);
         all.setRules(500, 0, 0, 0);
         all.shake(200);
         all.collect(3);
         Due.is("all in the pan", 0, all.modulus());
-        SieveBench none = charged("9:1", 9, 5, 1);
+        SieveBench none = Due.charged("9:1", 9, 5, 1);
         none.collect(0);
         Due.is("all on the highest", 300, none.modulus());
         // Retained are 1 and 1 and 8: only their sum is a ten.
-        SieveBench sum = charged("0:992,9:1,7:7", 9, 8, 7);
+        SieveBench sum = Due.charged("0:992,9:1,7:7", 9, 8, 7);
         sum.setRules(500, 0, 0, 0);
         sum.shake(200);
         for (int tray = 0; tray <= 3; tray++) {
@@ -491,7 +349,7 @@ final class EdgesTest {
     }
 
     private static void bandsEndsIncluded() {
-        SieveBench x = charged("0:500,9:500", 5);
+        SieveBench x = Due.charged("0:500,9:500", 5);
         x.setRules(500, 0, 0, 0);
         x.shake(200);
         x.collect(0);
@@ -507,7 +365,7 @@ final class EdgesTest {
         x.setBand(4, 0, 0);
         x.setBand(6, 0, 0);
         Due.is("bands of other apertures", 0, x.misses());
-        SieveBench six = charged("0:1,9:1", 9, 7, 5, 4, 3, 1);
+        SieveBench six = Due.charged("0:1,9:1", 9, 7, 5, 4, 3, 1);
         six.shake(10);
         for (int tray = 0; tray <= 6; tray++) {
             six.collect(tray);
@@ -529,7 +387,7 @@ final class EdgesTest {
         for (int aperture = 1; aperture <= 9; aperture++) {
             Due.is("all is coarser", 0, x.truePassing(aperture));
         }
-        Due.load(x, FULL_SAMPLE);
+        Due.load(x, Due.FULL_SAMPLE);
         for (int aperture = 1; aperture <= 9; aperture++) {
             Due.is("of the fullest sample", 100 * aperture, x.truePassing(aperture));
         }
@@ -543,12 +401,12 @@ final class EdgesTest {
 
     private static void firstMinuteBelowTheFlow() {
         // 8999 of class 0, 999 of class 1 and 1 of class 2 fall in the first minute.
-        SieveBench most = charged("0:9999,1:1111,2:1", 9);
+        SieveBench most = Due.charged("0:9999,1:1111,2:1", 9);
         Due.is("9999 is not less than 9999", 2, most.minutesTo(9999));
-        SieveBench less = charged("0:9999,1:1111", 9);
+        SieveBench less = Due.charged("0:9999,1:1111", 9);
         Due.is("9998 is", 1, less.minutesTo(9999));
         // 1 falls in the first minute, 2 in the second, 1 in the third, none in the fourth.
-        SieveBench rising = charged("0:2", 9, 8);
+        SieveBench rising = Due.charged("0:2", 9, 8);
         Due.is("the first one counts, though a greater flow follows", 1, rising.minutesTo(2));
         Due.is("rest", 4, rising.minutesTo(1));
         Due.is("1", 1, rising.shake(1));
@@ -557,13 +415,13 @@ final class EdgesTest {
         Due.is("2", 2, rising.shake(1));
         Due.is("1 more", 1, rising.shake(1));
         Due.is("at least 1", 1, rising.minutesTo(1));
-        SieveBench still = charged("9:9999", 1);
+        SieveBench still = Due.charged("9:9999", 1);
         Due.is("nothing can fall", 1, still.minutesTo(1));
         Due.is("whatever the flow", 1, still.minutesTo(9999));
     }
 
     private static void dustOfAllMinutes() {
-        SieveBench x = charged("0:9999", 9);
+        SieveBench x = Due.charged("0:9999", 9);
         x.setRules(500, 0, 0, 0);
         x.shake(200);
         x.setRules(500, 0, 1, 0);
@@ -584,35 +442,9 @@ final class EdgesTest {
         x.setRules(500, 0, 100, 0);
         x.collect(1);
         Due.is("an empty pan", 0, x.dustIn(500));
-        SieveBench stack = charged("0:100", 9, 8, 7);
+        SieveBench stack = Due.charged("0:100", 9, 8, 7);
         stack.setRules(500, 0, 100, 0);
         Due.is("nothing is in the pan after two minutes", 0, stack.dustIn(2));
         Due.is("72 after three", 7, stack.dustIn(3));
-    }
-
-    // ---- undo
-
-    private static void seventhSavedState() {
-        SieveBench x = new SieveBench();
-        for (int round = 0; round < 5; round++) {
-            for (int mass = 1; mass <= 7 + round; mass++) {
-                x.setMass(5, 100 * round + mass);
-            }
-            Due.is("six are saved", 6, x.count(9));
-            for (int back = 1; back <= 6; back++) {
-                Due.is("left", 6 - back, x.undo());
-                Due.is("restored", 100 * round + 7 + round - back, x.mass(5));
-            }
-            Due.is("the seventh had taken the place of the oldest", -2, x.undo());
-        }
-        SieveBench six = new SieveBench();
-        for (int mass = 1; mass <= 6; mass++) {
-            six.setMass(5, mass);
-        }
-        for (int back = 5; back >= 0; back--) {
-            Due.is("six keep the first", back, six.undo());
-        }
-        Due.is("which is the empty sample", 0, six.mass(5));
-        Due.is("undo saves nothing", -2, six.undo());
     }
 }
